@@ -1,4 +1,4 @@
-/** Counts the answers that are not as due, and ends the test with exit code 1 if there was one. */
+/** Holds answers against the document's sentences, and ends the test with exit code 1 if one is not as due. */
 final class Due {
     static final long M = 27512614111L;
     static final int UNKNOWN = -101;
@@ -6,7 +6,13 @@ final class Due {
     static final int STATE = -103;
     static final int ROOM = -104;
 
+    private String sentence = "";
     private int wrong = 0;
+
+    /** The words of the document that the next answers are held against. */
+    void says(String words) {
+        sentence = words;
+    }
 
     void is(String call, long got, long want) {
         if (got != want) {
@@ -29,9 +35,22 @@ final class Due {
         }
     }
 
+    /** The form of a number, its letters asked of a new object. */
+    void form(long number, String want) {
+        String got = form(number);
+        if (!got.equals(want)) {
+            tell("the form of " + number + " is " + got + ", due is " + want);
+        }
+    }
+
+    /** A text that is typed into a new object and read. */
+    void read(String text, long want) {
+        is("read() of '" + text + "'", typeAndRead(new NumberRows2(), text), want);
+    }
+
     void tell(String text) {
         wrong++;
-        System.out.println(text);
+        System.out.println(sentence.isEmpty() ? text : "\"" + sentence + "\": " + text);
     }
 
     void end() {
@@ -56,7 +75,8 @@ final class Due {
         return x.read();
     }
 
-    static String form(NumberRows2 x, long number) {
+    static String form(long number) {
+        NumberRows2 x = new NumberRows2();
         StringBuilder form = new StringBuilder();
         for (int i = 0; i < 9; i++) {
             form.append((char) x.letter(number, i));

@@ -12,6 +12,9 @@ public final class ModelTest {
     private static final long M = Due.M;
     private static final String LETTERS = "0123456789ABCDEFGHJKLMNPQRSTUVW";
     private static final int[] WEIGHTS = {3, 8, 5, 12, 7, 20, 11, 25, 1};
+    private static final int LIFE = 512;
+    /** A form with a blank before each of its letters. */
+    private static final int MOST_CALLS_OF_A_STEP = 18;
     private static final Due due = new Due();
 
     private final Random chance;
@@ -24,17 +27,18 @@ public final class ModelTest {
     private final List<Integer> typed = new ArrayList<>();
     private final List<Long> seen = new ArrayList<>();
     private final int style;
+    private int calls = 0;
 
     private ModelTest(int seed) {
         chance = new Random(seed);
-        style = seed % 4;
+        style = seed % 6;
     }
 
     public static void main(String[] args) {
-        for (int seed = 0; seed < 400; seed++) {
+        for (int seed = 0; seed < 900; seed++) {
             ModelTest run = new ModelTest(seed);
-            for (int k = 0; k < 512; k++) {
-                run.step("seed " + seed + " call " + k + ": ");
+            while (run.calls <= LIFE - MOST_CALLS_OF_A_STEP) {
+                run.step("seed " + seed + " call " + run.calls + ": ");
             }
             run.afterItsLife();
         }
@@ -42,9 +46,9 @@ public final class ModelTest {
     }
 
     private void step(String at) {
-        int kind = chance.nextInt(20);
-        if (style == 1 && kind < 4) {
-            kind = 18;
+        int kind = kindOfStep();
+        if (kind < 16 || kind > 18) {
+            calls++;
         }
         switch (kind) {
             case 0, 1 -> stepBlock(at);
@@ -60,6 +64,21 @@ public final class ModelTest {
         }
     }
 
+    /** The styles 4 and 5 fill the names, or the blocks and the barred rows. */
+    private int kindOfStep() {
+        int kind = chance.nextInt(20);
+        if (style == 1 && kind < 4) {
+            return 18;
+        }
+        if (style == 4 && kind > 0) {
+            return calls < 30 ? kind % 8 : 9;
+        }
+        if (style == 5 && kind > 9) {
+            return kind % 3;
+        }
+        return kind;
+    }
+
     private int smallOr(int most, int end) {
         int c = chance.nextInt(40);
         return c == 0 ? -1 : c == 1 ? end : c == 2 ? end - 1 : c == 3 ? chance.nextInt() : chance.nextInt(most);
@@ -73,7 +92,7 @@ public final class ModelTest {
             case 2: return 20000000000L;
             case 3: return M - chance.nextInt(2);
             case 4: return chance.nextLong();
-            default: return chance.nextInt(style == 2 ? 2000 : 200);
+            default: return chance.nextInt(style == 2 || style == 5 ? 2000 : 200);
         }
     }
 
@@ -85,7 +104,7 @@ public final class ModelTest {
         if (c == 1) {
             return chance.nextBoolean() ? M - chance.nextInt(2) : 11 * M - chance.nextInt(2);
         }
-        if (c < 4 || seen.isEmpty()) {
+        if (c < 4 && style != 4 || seen.isEmpty()) {
             return Due.number(chance.nextInt(10), chance.nextInt(200));
         }
         return seen.get(chance.nextInt(seen.size()));
@@ -93,13 +112,13 @@ public final class ModelTest {
 
     private long reference() {
         int c = chance.nextInt(40);
-        return c == 0 ? -1 : c == 1 ? chance.nextLong() : chance.nextInt(style == 3 ? 400 : 20);
+        return c == 0 ? -1 : c == 1 ? chance.nextLong() : chance.nextInt(style == 3 || style == 4 ? 400 : 20);
     }
 
     private void stepBlock(String at) {
         int office = smallOr(4, 100);
         long from = serial();
-        long to = chance.nextInt(4) == 0 ? serial() : from + chance.nextInt(style == 2 ? 500 : 6);
+        long to = chance.nextInt(4) == 0 && style < 4 ? serial() : from + chance.nextInt(style == 2 ? 500 : 6);
         due.is(at + "block(" + office + ", " + from + ", " + to + ")", x.block(office, from, to),
             blockModel(office, from, to));
     }
@@ -122,7 +141,7 @@ public final class ModelTest {
 
     private void stepBar(String at) {
         long from = serial();
-        long to = chance.nextInt(6) == 0 ? serial() : from + chance.nextInt(3);
+        long to = chance.nextInt(6) == 0 && style < 4 ? serial() : from + chance.nextInt(3);
         due.is(at + "bar(" + from + ", " + to + ")", x.bar(from, to), barModel(from, to));
     }
 
@@ -184,7 +203,7 @@ public final class ModelTest {
     }
 
     private void stepMap(String at) {
-        int sender = smallOr(3, 100);
+        int sender = smallOr(style == 4 ? 100 : 3, 100);
         long reference = reference();
         long n = number();
         due.is(at + "map(" + sender + ", " + reference + ", " + n + ")", x.map(sender, reference, n),
@@ -296,6 +315,7 @@ public final class ModelTest {
     }
 
     private void typeBoth(int c) {
+        calls++;
         x.type(c);
         if (typed.size() < 60) {
             typed.add(c);

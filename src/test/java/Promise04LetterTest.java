@@ -1,72 +1,101 @@
 public final class Promise04LetterTest {
     private static final Due due = new Due();
-    private static final String LETTERS = "0123456789ABCDEFGHJKLMNPQRSTUVW";
-    private static final int[] WEIGHTS = {3, 8, 5, 12, 7, 20, 11, 25, 1};
+    private static final long[] NUMBERS = {Due.M, 2 * Due.M - 1, 2 * Due.M, Due.number(4, 123456789), 11 * Due.M - 1};
 
     public static void main(String[] args) {
-        NumberRows2 x = new NumberRows2();
-        wrongInputs(x);
-        knownForms(x);
-        everyLetter(x);
-        check(x);
+        firstAndLastLetter();
+        letterIsACharacter();
+        everyServicesLetter();
+        tooSmallForANumber();
+        tooLargeForANumber();
+        unknownGoesBeforeTheException();
+        letterBelowTheFirst();
+        letterBehindTheLast();
+        numberNeedNotBeGiven();
         due.end();
     }
 
-    private static void wrongInputs(NumberRows2 x) {
-        long[] none = {Due.M - 1, 11 * Due.M, 0, -1, 1, Long.MIN_VALUE, Long.MAX_VALUE};
-        int[] places = {0, 8, 9, -1, Integer.MIN_VALUE, Integer.MAX_VALUE};
+    private static void letter(long number, int i, int want) {
+        due.is("letter(" + number + ", " + i + ")", new NumberRows2().letter(number, i), want);
+    }
+
+    private static void firstAndLastLetter() {
+        due.says("Letter i (0 .. 8) of a number's form");
+        letter(11 * Due.M - 1, 0, '9');
+        letter(11 * Due.M - 1, 8, 'W');
+        letter(Due.number(1, 0), 0, '1');
+        letter(Due.number(1, 0), 8, 'U');
+    }
+
+    private static void letterIsACharacter() {
+        due.says("as a character");
+        letter(Due.M, 0, 48);
+        letter(Due.number(0, 9), 7, 57);
+        letter(Due.number(0, 10), 7, 65);
+        letter(Due.number(0, 30), 7, 87);
+    }
+
+    private static void everyServicesLetter() {
+        due.says("nine letters: that of its service");
+        for (int service = 0; service < 10; service++) {
+            letter(Due.number(service, 0), 0, '0' + service);
+            letter(Due.number(service, Due.M - 1), 0, '0' + service);
+        }
+    }
+
+    private static void tooSmallForANumber() {
+        due.says("UNKNOWN when it is none (from M on)");
+        long[] none = {Due.M - 1, 1, 0, -1, -Due.M, Long.MIN_VALUE};
+        for (long number : none) {
+            letter(number, 0, Due.UNKNOWN);
+            letter(number, 8, Due.UNKNOWN);
+        }
+        letter(Due.M, 0, '0');
+    }
+
+    private static void tooLargeForANumber() {
+        due.says("UNKNOWN when it is none (below 11 M)");
+        long[] none = {11 * Due.M, 12 * Due.M, Long.MAX_VALUE};
+        for (long number : none) {
+            letter(number, 0, Due.UNKNOWN);
+            letter(number, 8, Due.UNKNOWN);
+        }
+        letter(11 * Due.M - 1, 0, '9');
+    }
+
+    private static void unknownGoesBeforeTheException() {
+        due.says("ArrayIndexOutOfBoundsException when it is one: UNKNOWN when it is none");
+        long[] none = {Due.M - 1, 11 * Due.M, 0, Long.MIN_VALUE, Long.MAX_VALUE};
+        int[] places = {-1, 9, Integer.MIN_VALUE, Integer.MAX_VALUE};
         for (long number : none) {
             for (int i : places) {
-                due.is("letter(" + number + ", " + i + ")", x.letter(number, i), Due.UNKNOWN);
+                letter(number, i, Due.UNKNOWN);
             }
         }
-        long[] numbers = {Due.M, 11 * Due.M - 1, Due.number(4, 123456789)};
-        for (long number : numbers) {
-            due.letterThrows(x, number, -1);
-            due.letterThrows(x, number, 9);
-            due.letterThrows(x, number, Integer.MIN_VALUE);
-            due.letterThrows(x, number, Integer.MAX_VALUE);
+    }
+
+    private static void letterBelowTheFirst() {
+        due.says("ArrayIndexOutOfBoundsException when it has no such letter: i below 0");
+        for (long number : NUMBERS) {
+            due.letterThrows(new NumberRows2(), number, -1);
+            due.letterThrows(new NumberRows2(), number, Integer.MIN_VALUE);
         }
     }
 
-    private static void knownForms(NumberRows2 x) {
-        form(x, Due.number(0, 0), "000000000");
-        form(x, Due.number(0, 1), "000000016");
-        // 3 * 1 is 3, so the one that checks is 28, a U.
-        form(x, Due.number(1, 0), "10000000U");
-        // 9 * 3 + 30 * (8 + 5 + 12 + 7 + 20 + 11 + 25) is 2667, 31 * 86 is 2666, and 30 is lacking.
-        form(x, Due.number(9, Due.M - 1), "9WWWWWWWW");
-        form(x, Due.number(0, 31), "00000010L");
-    }
-
-    private static void form(NumberRows2 x, long number, String want) {
-        String got = Due.form(x, number);
-        if (!got.equals(want)) {
-            due.tell("the form of " + number + " is " + got + ", due is " + want);
+    private static void letterBehindTheLast() {
+        due.says("ArrayIndexOutOfBoundsException when it has no such letter: i above 8");
+        for (long number : NUMBERS) {
+            due.letterThrows(new NumberRows2(), number, 9);
+            due.letterThrows(new NumberRows2(), number, Integer.MAX_VALUE);
         }
     }
 
-    private static void everyLetter(NumberRows2 x) {
-        long power = 1;
-        for (int i = 7; i >= 1; i--) {
-            for (int v = 0; v < 31; v++) {
-                due.is("letter " + i + " of value " + v, x.letter(Due.number(6, v * power), i), LETTERS.charAt(v));
-            }
-            power = power * 31;
-        }
-        for (int service = 0; service < 10; service++) {
-            due.is("service " + service, x.letter(Due.number(service, 77), 0), '0' + service);
-        }
-    }
-
-    private static void check(NumberRows2 x) {
-        for (int k = 0; k < 1000; k++) {
-            long number = Due.number(k % 10, k * 27000001L % Due.M);
-            int sum = 0;
-            for (int i = 0; i < 9; i++) {
-                sum += WEIGHTS[i] * LETTERS.indexOf(x.letter(number, i));
-            }
-            due.is("the sum of " + number + " modulo 31", sum % 31, 0);
-        }
+    private static void numberNeedNotBeGiven() {
+        due.says("of a number's form: a number that is barred, or an old one's, has one too");
+        NumberRows2 x = new NumberRows2();
+        x.bar(0, Due.M - 1);
+        due.is("letter(2 M, 0)", x.letter(2 * Due.M, 0), '1');
+        due.is("letter(old(9999999999), 0)", x.letter(x.old(9999999999L), 0), '9');
+        due.is("letter of an old number itself", x.letter(9999999999L, 0), Due.UNKNOWN);
     }
 }

@@ -2,10 +2,26 @@ public final class Promise10MapTest {
     private static final Due due = new Due();
 
     public static void main(String[] args) {
-        names();
-        refusals();
-        barredNumbers();
+        aNewName();
+        itWasThatAlready();
+        anotherOneOfThatSender();
+        theOneBeforeIsNoneThen();
+        anotherSendersNameStays();
+        oneReferenceOfTwoSenders();
+        leastAndGreatestReference();
+        firstAndLastSender();
+        notGivenYet();
+        barredSince();
+        noNumber();
+        senderTooSmall();
+        senderTooLarge();
+        referenceTooSmall();
+        referenceOfAnotherNumber();
+        referenceOfABarredNumber();
         room();
+        noRoomIsNeededForNothingNew();
+        noRoomIsNeededForAnotherOne();
+        noRoomComesByBarring();
         due.end();
     }
 
@@ -23,71 +39,213 @@ public final class Promise10MapTest {
         return Due.number(0, serial);
     }
 
-    private static void names() {
-        NumberRows2 x = withGiven(3);
-        due.is("a name", x.map(0, 0, number(0)), 1);
-        due.is("it was that already", x.map(0, 0, number(0)), 0);
-        due.is("of another number", x.map(0, 0, number(1)), Due.STATE);
-        due.is("the same reference of another sender", x.map(99, 0, number(1)), 1);
-        due.is("one number, two senders", x.map(99, Long.MAX_VALUE, number(0)), 1);
-        due.is("another reference", x.map(0, 5, number(0)), 2);
-        due.is("the reference before is none", x.named(0, 0), Due.UNKNOWN);
-        due.is("the other sender's stays", x.named(99, Long.MAX_VALUE), number(0));
-        due.is("the reference before is free", x.map(0, 0, number(1)), 1);
-        due.is("and taken then", x.map(0, 0, number(0)), Due.STATE);
-        due.is("STATE changes nothing", x.named(0, 5), number(0));
-        due.is("STATE changes nothing", x.named(0, 0), number(1));
-        due.is("to a third one", x.map(0, 6, number(0)), 2);
-        due.is("and back", x.map(0, 5, number(0)), 2);
-        due.is("that is it already", x.map(0, 5, number(0)), 0);
+    private static void map(NumberRows2 x, int sender, long reference, long number, int want) {
+        due.is("map(" + sender + ", " + reference + ", " + number + ")", x.map(sender, reference, number), want);
     }
 
-    private static void refusals() {
-        NumberRows2 x = withGiven(2);
-        x.map(1, 1, number(0));
-        int[] senders = {-1, 100, Integer.MIN_VALUE, Integer.MAX_VALUE};
-        for (int sender : senders) {
-            due.is("map(" + sender + ", 1, given)", x.map(sender, 1, number(0)), Due.OUTSIDE);
-            due.is("UNKNOWN goes before OUTSIDE", x.map(sender, 1, number(2)), Due.UNKNOWN);
-            due.is("named(" + sender + ", 1)", x.named(sender, 1), Due.UNKNOWN);
-        }
-        long[] references = {-1, Long.MIN_VALUE};
-        for (long reference : references) {
-            due.is("map(1, " + reference + ", given)", x.map(1, reference, number(0)), Due.OUTSIDE);
-            due.is("UNKNOWN goes before OUTSIDE", x.map(1, reference, number(2)), Due.UNKNOWN);
-        }
-        long[] none = {0, -1, Due.UNKNOWN, Due.M - 1, 11 * Due.M, Due.number(1, 0), Long.MAX_VALUE, Long.MIN_VALUE};
-        for (long number : none) {
-            due.is("map(1, 2, " + number + ")", x.map(1, 2, number), Due.UNKNOWN);
-            due.is("UNKNOWN goes before STATE", x.map(1, 1, number), Due.UNKNOWN);
-        }
-        due.is("refusals change nothing", x.named(1, 1), number(0));
-        due.is("refusals change nothing", x.named(1, 2), Due.UNKNOWN);
+    private static void named(NumberRows2 x, int sender, long reference, long want) {
+        due.is("named(" + sender + ", " + reference + ")", x.named(sender, reference), want);
     }
 
-    private static void barredNumbers() {
+    private static void aNewName() {
+        due.says("A sender's own reference is a number's name: 1");
         NumberRows2 x = withGiven(2);
-        x.map(1, 1, number(0));
+        map(x, 3, 7, number(0), 1);
+        map(x, 3, 8, number(1), 1);
+        named(x, 3, 7, number(0));
+        named(x, 3, 8, number(1));
+    }
+
+    private static void itWasThatAlready() {
+        due.says("0 when it was that already");
+        NumberRows2 x = withGiven(2);
+        map(x, 3, 7, number(0), 1);
+        map(x, 3, 8, number(1), 1);
+        map(x, 3, 7, number(0), 0);
+        map(x, 3, 8, number(1), 0);
+        named(x, 3, 7, number(0));
+    }
+
+    private static void anotherOneOfThatSender() {
+        due.says("2 when the number had another one of that sender");
+        NumberRows2 x = withGiven(1);
+        map(x, 3, 7, number(0), 1);
+        map(x, 3, 8, number(0), 2);
+        named(x, 3, 8, number(0));
+        map(x, 3, 7, number(0), 2);
+        map(x, 3, 7, number(0), 0);
+        named(x, 3, 7, number(0));
+    }
+
+    private static void theOneBeforeIsNoneThen() {
+        due.says("another one of that sender, which is none then");
+        NumberRows2 x = withGiven(2);
+        map(x, 3, 7, number(0), 1);
+        map(x, 3, 8, number(0), 2);
+        named(x, 3, 7, Due.UNKNOWN);
+        map(x, 3, 7, number(1), 1);
+        named(x, 3, 7, number(1));
+        named(x, 3, 8, number(0));
+    }
+
+    private static void anotherSendersNameStays() {
+        due.says("another one of that sender: not of another sender");
+        NumberRows2 x = withGiven(1);
+        map(x, 3, 7, number(0), 1);
+        map(x, 4, 8, number(0), 1);
+        map(x, 4, 9, number(0), 2);
+        named(x, 3, 7, number(0));
+        named(x, 4, 9, number(0));
+    }
+
+    private static void oneReferenceOfTwoSenders() {
+        due.says("A sender's own reference");
+        NumberRows2 x = withGiven(2);
+        map(x, 3, 7, number(0), 1);
+        map(x, 4, 7, number(1), 1);
+        map(x, 5, 7, number(1), 1);
+        named(x, 3, 7, number(0));
+        named(x, 4, 7, number(1));
+    }
+
+    private static void leastAndGreatestReference() {
+        due.says("a reference below 0: 0 and the greatest are not");
+        NumberRows2 x = withGiven(2);
+        map(x, 3, 0, number(0), 1);
+        map(x, 3, Long.MAX_VALUE, number(1), 1);
+        named(x, 3, 0, number(0));
+        named(x, 3, Long.MAX_VALUE, number(1));
+    }
+
+    private static void firstAndLastSender() {
+        due.says("A sender's (0 .. 99)");
+        NumberRows2 x = withGiven(2);
+        map(x, 0, 7, number(0), 1);
+        map(x, 99, 7, number(1), 1);
+        named(x, 0, 7, number(0));
+        named(x, 99, 7, number(1));
+    }
+
+    private static void notGivenYet() {
+        due.says("UNKNOWN (the number is not given): not yet");
+        NumberRows2 x = withGiven(1);
+        map(x, 3, 7, number(1), Due.UNKNOWN);
+        map(x, 3, 7, Due.number(1, 0), Due.UNKNOWN);
+        named(x, 3, 7, Due.UNKNOWN);
+        x.next(0, 0);
+        map(x, 3, 7, number(1), 1);
+    }
+
+    private static void barredSince() {
+        due.says("UNKNOWN (the number is not given): not any more");
+        NumberRows2 x = withGiven(2);
+        map(x, 3, 7, number(0), 1);
         x.bar(0, 0);
-        due.is("the name of a barred number", x.map(1, 1, number(0)), Due.UNKNOWN);
-        due.is("a new name of it", x.map(1, 2, number(0)), Due.UNKNOWN);
-        due.is("its name stays", x.named(1, 1), number(0));
-        due.is("its name is not free", x.map(1, 1, number(1)), Due.STATE);
+        map(x, 3, 7, number(0), Due.UNKNOWN);
+        map(x, 3, 8, number(0), Due.UNKNOWN);
+        map(x, 4, 7, number(0), Due.UNKNOWN);
+        named(x, 3, 7, number(0));
+        named(x, 3, 8, Due.UNKNOWN);
+    }
+
+    private static void noNumber() {
+        due.says("UNKNOWN (the number is not given): it is none");
+        NumberRows2 x = withGiven(1);
+        long[] none = {0, -1, Due.UNKNOWN, Due.M - 1, 11 * Due.M, Long.MAX_VALUE, Long.MIN_VALUE};
+        for (long number : none) {
+            map(x, 3, 7, number, Due.UNKNOWN);
+        }
+        map(x, 3, 7, x.old(0), Due.UNKNOWN);
+    }
+
+    private static void senderTooSmall() {
+        due.says("OUTSIDE (a sender is not 0 .. 99): below 0");
+        NumberRows2 x = withGiven(1);
+        map(x, -1, 7, number(0), Due.OUTSIDE);
+        map(x, Integer.MIN_VALUE, 7, number(0), Due.OUTSIDE);
+        named(x, -1, 7, Due.UNKNOWN);
+    }
+
+    private static void senderTooLarge() {
+        due.says("OUTSIDE (a sender is not 0 .. 99): above 99");
+        NumberRows2 x = withGiven(1);
+        map(x, 100, 7, number(0), Due.OUTSIDE);
+        map(x, Integer.MAX_VALUE, 7, number(0), Due.OUTSIDE);
+        named(x, 100, 7, Due.UNKNOWN);
+    }
+
+    private static void referenceTooSmall() {
+        due.says("OUTSIDE (a reference below 0)");
+        NumberRows2 x = withGiven(1);
+        map(x, 3, -1, number(0), Due.OUTSIDE);
+        map(x, 3, Long.MIN_VALUE, number(0), Due.OUTSIDE);
+        named(x, 3, -1, Due.UNKNOWN);
+        map(x, 3, 7, number(0), 1);
+        map(x, 3, -1, number(0), Due.OUTSIDE);
+        named(x, 3, 7, number(0));
+    }
+
+    private static void referenceOfAnotherNumber() {
+        due.says("STATE (the reference is that of another number)");
+        NumberRows2 x = withGiven(2);
+        map(x, 3, 7, number(0), 1);
+        map(x, 3, 7, number(1), Due.STATE);
+        map(x, 3, 8, number(1), 1);
+        map(x, 3, 7, number(1), Due.STATE);
+        map(x, 3, 8, number(0), Due.STATE);
+        named(x, 3, 7, number(0));
+        named(x, 3, 8, number(1));
+    }
+
+    private static void referenceOfABarredNumber() {
+        due.says("STATE (the reference is that of another number): though that is barred");
+        NumberRows2 x = withGiven(2);
+        map(x, 3, 7, number(0), 1);
+        x.bar(0, 0);
+        map(x, 3, 7, number(1), Due.STATE);
+        named(x, 3, 7, number(0));
+    }
+
+    /** An object with 300 names: the references 0 to 2 of each sender are the numbers 0 to 2; number 3 has none. */
+    private static NumberRows2 withAllNames() {
+        NumberRows2 x = withGiven(4);
+        for (int k = 0; k < 300; k++) {
+            map(x, k % 100, k / 100, number(k / 100), 1);
+        }
+        return x;
     }
 
     private static void room() {
-        NumberRows2 x = withGiven(4);
-        for (int k = 0; k < 300; k++) {
-            due.is("name " + k, x.map(k % 100, k / 100, number(k / 100)), 1);
-        }
-        due.is("name 301", x.map(0, 7, number(3)), Due.ROOM);
-        due.is("name 301 is none", x.named(0, 7), Due.UNKNOWN);
-        due.is("no new name", x.map(99, 2, number(2)), 0);
-        due.is("a name for another", x.map(99, 8, number(2)), 2);
-        due.is("the 300 stay full by that", x.map(99, 2, number(3)), Due.ROOM);
-        due.is("STATE goes before ROOM", x.map(0, 0, number(3)), Due.STATE);
-        due.is("OUTSIDE goes before ROOM", x.map(100, 0, number(3)), Due.OUTSIDE);
-        due.is("UNKNOWN goes before ROOM", x.map(0, 7, number(4)), Due.UNKNOWN);
-        due.is("the last name", x.named(99, 8), number(2));
+        due.says("ROOM (300 names)");
+        NumberRows2 x = withAllNames();
+        map(x, 0, 7, number(3), Due.ROOM);
+        map(x, 99, 7, number(3), Due.ROOM);
+        named(x, 0, 7, Due.UNKNOWN);
+        named(x, 0, 0, number(0));
+        named(x, 99, 2, number(2));
+    }
+
+    private static void noRoomIsNeededForNothingNew() {
+        due.says("ROOM (300 names): 0 when it was that already");
+        NumberRows2 x = withAllNames();
+        map(x, 0, 0, number(0), 0);
+        map(x, 99, 2, number(2), 0);
+    }
+
+    private static void noRoomIsNeededForAnotherOne() {
+        due.says("ROOM (300 names): 2 when another one is none then");
+        NumberRows2 x = withAllNames();
+        map(x, 99, 8, number(2), 2);
+        named(x, 99, 8, number(2));
+        named(x, 99, 2, Due.UNKNOWN);
+        map(x, 99, 2, number(3), Due.ROOM);
+    }
+
+    private static void noRoomComesByBarring() {
+        due.says("ROOM (300 names): names of barred numbers are names");
+        NumberRows2 x = withAllNames();
+        x.bar(0, 2);
+        map(x, 0, 7, number(3), Due.ROOM);
+        named(x, 0, 0, number(0));
     }
 }
